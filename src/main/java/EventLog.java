@@ -43,12 +43,11 @@ public final class EventLog {
     private Event argumentsBefore = new Event();
     private Format draft = new Format();
     private final ArrayList<Format> sites = new ArrayList<>();
-    private final Names names = new Names();
     private final Block[] blocks = new Block[WRITERS];
     private final Row packed = new Row(2 * VAR_MOST + SLOTS_MOST * (1 + TEXT_MOST));
     private final LogFile file = new LogFile();
     private final Lines lines = new Lines();
-    private final Printer printer = new Printer(sites, names);
+    private final Printer printer = new Printer();
     private final Query query = new Query();
     private final NumberSet numbers = new NumberSet();
 
@@ -95,7 +94,7 @@ public final class EventLog {
         if (taken.held() < 1 || taken.held() > NAME_MOST || !taken.isPrintable()) {
             throw new IllegalArgumentException();
         }
-        names.give(table, code, taken);
+        printer.giveName(table, code, taken);
     }
 
     public int arg(int x) throws UnsupportedOperationException {
@@ -232,11 +231,13 @@ public final class EventLog {
     }
 
     public int length(int line) throws NoSuchElementException {
-        return printer.print(lineOf(line)).held();
+        Event event = lineOf(line);
+        return printer.print(event, formatOf(event)).held();
     }
 
     public int letter(int line, int i) throws NoSuchElementException, IndexOutOfBoundsException {
-        Row printed = printer.print(lineOf(line));
+        Event event = lineOf(line);
+        Row printed = printer.print(event, formatOf(event));
         if (i < 0 || i >= printed.held()) {
             throw new IndexOutOfBoundsException();
         }
@@ -274,7 +275,8 @@ public final class EventLog {
 
     public int find(int from) {
         for (int k = Math.max(from, 0); k < lines.held(); k++) {
-            if (query.holds(lines.at(k), printer)) {
+            Event line = lines.at(k);
+            if (query.holds(line, formatOf(line), printer)) {
                 return k;
             }
         }
@@ -284,7 +286,8 @@ public final class EventLog {
     public int count() {
         int n = 0;
         for (int k = 0; k < lines.held(); k++) {
-            if (query.holds(lines.at(k), printer)) {
+            Event line = lines.at(k);
+            if (query.holds(line, formatOf(line), printer)) {
                 n++;
             }
         }
@@ -298,7 +301,7 @@ public final class EventLog {
         numbers.begin(lines.held());
         for (int k = 0; k < lines.held(); k++) {
             Event line = lines.at(k);
-            if (line.hasNumber(slot) && query.holds(line, printer)) {
+            if (line.hasNumber(slot) && query.holds(line, formatOf(line), printer)) {
                 numbers.add(line.numberAt(slot));
             }
         }
@@ -314,6 +317,11 @@ public final class EventLog {
             throw new NoSuchElementException();
         }
         return lines.at(line);
+    }
+
+    /** A line's site was there when the line was read, and sites do not go away. */
+    private Format formatOf(Event line) {
+        return sites.get(line.origin());
     }
 
     /** The two rows change places, so that the text is empty whatever the caller answers or throws. */
@@ -1057,24 +1065,18 @@ public final class EventLog {
         }
     }
 
-    /** Prints a line by its site's format. */
+    /** Prints a line by its site's format and by the tables as they are. */
     private static final class Printer {
-        private final ArrayList<Format> sites;
-        private final Names names;
+        private final Names names = new Names();
         private final Row out = new Row(FORMAT_MOST + SLOTS_MOST * TEXT_MOST);
         private final int[] digits = new int[12];
 
-        Printer(ArrayList<Format> theSites, Names theNames) {
-            sites = theSites;
-            names = theNames;
+        void giveName(int table, int code, Row given) {
+            names.give(table, code, given);
         }
 
-        Row print(Event line) {
+        Row print(Event line, Format format) {
             out.begin();
-            if (line.origin() < 0 || line.origin() >= sites.size()) {
-                return out;
-            }
-            Format format = sites.get(line.origin());
             for (int k = 0; k < format.pieceCount(); k++) {
                 int piece = format.pieceAt(k);
                 if (piece >= 0) {
@@ -1184,7 +1186,7 @@ public final class EventLog {
         }
 
         /** The line is printed only if all else holds, and once. */
-        boolean holds(Event line, Printer printer) {
+        boolean holds(Event line, Format format, Printer printer) {
             boolean searches = false;
             for (int k = 0; k < used; k++) {
                 if (kinds[k] == TEXT_HAS) {
@@ -1193,7 +1195,7 @@ public final class EventLog {
                     return false;
                 }
             }
-            return !searches || partsStandIn(printer.print(line));
+            return !searches || partsStandIn(printer.print(line, format));
         }
 
         private boolean holdsUnprinted(int k, Event line) {

@@ -46,6 +46,9 @@ public final class ModelTest {
     }
 
     private String both(String what, Supplier<Object> ofProgram, Supplier<Object> ofModel) {
+        if (calls == CALLS) {
+            return "";
+        }
         calls++;
         String got = outcome(ofProgram);
         check.same("run " + run + " call " + calls + " " + what, got, outcome(ofModel));
