@@ -9,9 +9,26 @@ final class Check {
     private final String test;
     private int calls = 0;
     private int wrong = 0;
+    private String sentence = "";
+    private int sentences = 0;
+    private int callsBefore = 0;
 
     Check(String test) {
         this.test = test;
+    }
+
+    /** What comes now looks at this sentence of the document, until the next one. */
+    void sentence(String words) {
+        endSentence();
+        sentence = words;
+        sentences++;
+        callsBefore = calls;
+    }
+
+    private void endSentence() {
+        if (sentences > 0 && calls == callsBefore) {
+            tell("nothing was looked at");
+        }
     }
 
     void same(String what, long got, long due) {
@@ -47,12 +64,14 @@ final class Check {
     private void tell(String fault) {
         wrong++;
         if (wrong <= 40) {
-            System.out.println(test + ": " + fault);
+            System.out.println(test + ": " + (sentences > 0 ? "[" + sentence + "] " : "") + fault);
         }
     }
 
     void end() {
-        System.out.println(test + ": " + calls + " answers looked at, " + wrong + " not as due");
+        endSentence();
+        String of = sentences > 0 ? " for " + sentences + " sentences" : "";
+        System.out.println(test + ": " + calls + " answers looked at" + of + ", " + wrong + " not as due");
         if (wrong != 0 || calls == 0) {
             System.exit(1);
         }
@@ -111,10 +130,28 @@ final class Check {
 
     static String line(EventLog x, int line) {
         StringBuilder s = new StringBuilder();
-        for (int i = 0; i < x.length(line); i++) {
+        int n = x.length(line);
+        for (int i = 0; i < n; i++) {
             s.append((char) x.letter(line, i));
         }
         return s.toString();
+    }
+
+    /** A writer's block goes to the file: the bytes of its events. */
+    static String flushed(EventLog x, int writer) {
+        int from = x.size();
+        x.flush(writer);
+        int n = 256 * x.byteOf(from + 12) + x.byteOf(from + 13);
+        return file(x, from + 14, from + 14 + n);
+    }
+
+    /** How many bytes the text has; it is full then. */
+    static int typed(EventLog x) {
+        int room = 0;
+        while (x.type(' ', 1)) {
+            room++;
+        }
+        return 200 - room;
     }
 
     /** Bytes of the file as numbers with blanks between them. */

@@ -25,13 +25,6 @@ public final class LogTest {
         check.end();
     }
 
-    private static String packed(EventLog x, int writer) {
-        int from = x.size();
-        x.flush(writer);
-        int n = 256 * x.byteOf(from + 12) + x.byteOf(from + 13);
-        return Check.file(x, from + 14, from + 14 + n);
-    }
-
     private static void numbersByTheirDifference() {
         EventLog x = new EventLog();
         Check.site(x, "{d}");
@@ -40,7 +33,7 @@ public final class LogTest {
         for (int k = 0; k < numbers.length; k++) {
             check.same("log of " + numbers[k], Check.log(x, 0, 0, 5, numbers[k]), sizes[k]);
         }
-        check.same("packed", packed(x, 0), "0 0 0 0 0 0 0 0 124 0 0 4 0 0 255 0 0 0 61 0 0 4 0 0 63 0 0 4"
+        check.same("packed", Check.flushed(x, 0), "0 0 0 0 0 0 0 0 124 0 0 4 0 0 255 0 0 0 61 0 0 4 0 0 63 0 0 4"
             + " 0 0 255 0 0 0 1 0 0 255 255 255 255 196 0 0 255 0 0 3 232 0 0 65 0 0 255 255 255 255 255");
     }
 
@@ -52,7 +45,7 @@ public final class LogTest {
         Check.log(x, 0, 0, 0, Integer.MAX_VALUE);
         Check.log(x, 0, 0, 0, Integer.MIN_VALUE + 59);
         Check.log(x, 0, 0, 0, Integer.MAX_VALUE - 1);
-        check.same("packed", packed(x, 0), "0 0 255 127 255 255 255 0 0 65 0 0 63 0 0 124 0 0 255 127 255 255 254");
+        check.same("packed", Check.flushed(x, 0), "0 0 255 127 255 255 255 0 0 65 0 0 63 0 0 124 0 0 255 127 255 255 254");
         x.open();
         check.same("wrapped", x.about(1, 0), Integer.MIN_VALUE);
         check.same("wrapped back", x.about(2, 0), Integer.MAX_VALUE);
@@ -68,9 +61,9 @@ public final class LogTest {
         Check.log(x, 0, 1, 0, 6, 11);
         Check.log(x, 0, 0, 0, 6, 9);
         Check.log(x, 0, 1, 0, 6, 12);
-        check.same("packed", packed(x, 0), "0 0 69 74 1 0 70 75 0 0 65 63 1 0 0 65");
+        check.same("packed", Check.flushed(x, 0), "0 0 69 74 1 0 70 75 0 0 65 63 1 0 0 65");
         Check.log(x, 0, 0, 0, 6, 9);
-        check.same("an empty block knows no last number", packed(x, 0), "0 0 70 73");
+        check.same("an empty block knows no last number", Check.flushed(x, 0), "0 0 70 73");
     }
 
     private static void timesAsVars() {
@@ -81,7 +74,7 @@ public final class LogTest {
         for (int k = 0; k < times.length; k++) {
             check.same("log at " + times[k], x.log(2, 0, times[k]), sizes[k]);
         }
-        check.same("packed", packed(x, 2),
+        check.same("packed", Check.flushed(x, 2),
             "0 0 0 0 0 127 0 128 1 0 255 127 0 128 128 1 0 157 253 253 255 255 255 255 255 127");
         check.same("the block's time", Check.file(x, 4, 12), "0 0 0 0 0 0 0 100");
         check.same("the last time again", x.log(2, 0, Long.MAX_VALUE), 2);
@@ -98,7 +91,7 @@ public final class LogTest {
             Check.site(x, "s" + k);
         }
         check.same("site 39", x.log(0, 39, 0), 2);
-        check.same("packed", packed(x, 0), "39 0");
+        check.same("packed", Check.flushed(x, 0), "39 0");
     }
 
     private static void theLastSiteHasItsLastNumbersToo() {
@@ -122,7 +115,7 @@ public final class LogTest {
         Check.site(x, "{t}{d}{t}");
         check.same("log", Check.log(x, 1, 0, 0, "", 3, "a\377"), 7);
         check.same("log", Check.log(x, 1, 0, 0, "", 4, "a\377"), 14);
-        check.same("packed", packed(x, 1), "0 0 0 67 2 97 255 0 0 0 65 2 97 255");
+        check.same("packed", Check.flushed(x, 1), "0 0 0 67 2 97 255 0 0 0 65 2 97 255");
     }
 
     private static void writersHaveTheirOwnBlocks() {

