@@ -166,6 +166,20 @@ public final class PackEdgeTest {
         check.same("packed", Check.flushed(x, 0), "0 0 255 0 0 1 244 2 97 98 255 0 0 2 88"
             + " 1 0 255 0 0 2 188 255 0 0 3 32 255 0 0 3 132 0 0 65 3 97 98 99 62 1 0 0 124 255 0 0 3 71");
         check.same("another writer's", Check.flushed(x, 1), "0 0 65 0 66");
+        EventLog y = new EventLog();
+        for (int k = 0; k < 40; k++) {
+            Check.site(y, "{d}{d}{d}{d}{d}{d}" + k);
+        }
+        for (int site = 38; site <= 39; site++) {
+            Check.log(y, 0, site, 0, 10 + site, 11 + site, 12 + site, 13 + site, 14 + site, 15 + site);
+        }
+        Check.log(y, 0, 39, 0, 50, 51, 52, 53, 54, 55);
+        Check.log(y, 0, 38, 0, 48, 49, 50, 51, 52, 54);
+        check.same("of the last sites and slots", Check.flushed(y, 0), "38 0 112 113 114 115 116 117 39 0 113 114 115 116 117 118"
+            + " 39 0 65 65 65 65 65 65 38 0 0 0 0 0 0 65");
+        y.open();
+        check.same("the last but one, read", Check.line(y, 2), "50515253545539");
+        check.same("the last one, read", Check.line(y, 3), "48495051525438");
     }
 
     private static void textsBySizeAndBytes() {

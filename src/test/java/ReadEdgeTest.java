@@ -7,6 +7,7 @@ public final class ReadEdgeTest {
 
     public static void main(String[] args) {
         whatIsLeftAtTheEnd();
+        whateverItsBytesAre();
         theFirstByte();
         theWriter();
         theTimeOfTheBlock();
@@ -107,6 +108,23 @@ public final class ReadEdgeTest {
                 reads("of " + n + " bytes", x, 119 * (n / 256), n % 256 == 0 ? 0 : 1);
             }
         }
+    }
+
+    /** All bytes of a whole block but the last one, which is 0. */
+    private static void whateverItsBytesAre() {
+        check.sentence("what is left at the end (less than 256) is BROKEN: whatever its bytes are");
+        EventLog x = new EventLog();
+        Check.site(x, "{t}{t}{t}{t}{t}{t}");
+        String s = "sixteen bytes ..";
+        for (int k = 0; k < 3; k++) {
+            Check.log(x, 0, 0, 0, s, s, s, s, s, s);
+        }
+        Forgery block = new Forgery(x, 0);
+        block.put(251, -block.sum());
+        check.same("the last byte", x.byteOf(255), 0);
+        reads("the block", x, 2, 0);
+        check.same("crash", x.crash(255), 255);
+        reads("all but its last byte", x, 0, 1);
     }
 
     private static void theFirstByte() {
@@ -390,6 +408,11 @@ public final class ReadEdgeTest {
             }
             events(n == 1, 1, joined(var, new int[] {0, 0}));
             events(false, 0, joined(new int[] {0}, repeated(n, 128)));
+        }
+        for (int b : new int[] {0, 1, 2, 64, 126, 127}) {
+            events(false, 0, joined(new int[] {0}, repeated(9, 128), new int[] {b}));
+            events(false, 0, joined(new int[] {0}, repeated(10, 128), new int[] {b}));
+            events(false, 0, joined(repeated(9, 128), new int[] {b, 0}));
         }
     }
 

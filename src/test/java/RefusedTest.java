@@ -154,7 +154,8 @@ public final class RefusedTest {
 
     private static void siteChangesNothing() {
         check.sentence("site: a fault, and UnsupportedOperationException, change nothing but the text");
-        String[] faults = {"{", "}", "\n", "{d}{q}", "{t}{t}{t}{t}{t}{t}{d}", "x".repeat(81), "x".repeat(200), "{f7}", "{d}}", "{d}{d}{d}{d}{d}{d"};
+        String[] faults = {"{", "}", "\n", "{d}{q}", "{t}{t}{t}{t}{t}{t}{d}", "x".repeat(81), "x".repeat(200), "{f7}", "{d}}", "{d}{d}{d}{d}{d}{d",
+            "{f1}{f2}{f3}{f4}{f5}{f6}z}", "{t}{t}{t}{e7"};
         for (String fault : faults) {
             of(RefusedTest::withArguments).compare("a fault", x -> check.same("a fault", Check.site(x, fault) < 0, true));
         }

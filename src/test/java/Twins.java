@@ -161,10 +161,16 @@ final class Twins {
 
     private static String sites(EventLog x) {
         StringBuilder s = new StringBuilder(answer(x::site));
-        for (String format : new String[] {"{d}", "", "{e4}{e5}{e6}{e7}", "another", "{", "{d}"}) {
+        for (String format : new String[] {"a{d}{u}b{x}c", "{d}", "", "{e4}{e5}{e6}{e7}", "{", "{d}"}) {
             s.append(answer(() -> Check.site(x, format)));
         }
-        return s.toString();
+        x.rotate();
+        answer(() -> x.log(0, 0, 0));
+        for (int site = 6; site < 9; site++) {
+            int origin = site;
+            s.append(answer(() -> Check.log(x, 0, origin, 0, 1234567, 1234567, 1234567)));
+        }
+        return s + answer(() -> x.flush(0)) + answer(x::open) + answer(() -> Check.line(x, 0));
     }
 
     /** Codes of all tables, by the pasts' sites 4 and 5. */
