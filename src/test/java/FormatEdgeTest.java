@@ -24,6 +24,7 @@ public final class FormatEdgeTest {
         namesOfOneToTwelveBytes();
         bytesOfAName();
         insteadOfWhatItHad();
+        namesSideBySide();
         check.end();
     }
 
@@ -315,5 +316,26 @@ public final class FormatEdgeTest {
         check.fails("a wrong one", IllegalArgumentException.class, () -> Check.name(x, 0, 0, "1234567890123"));
         check.fails("an empty one", IllegalArgumentException.class, () -> x.name(0, 0));
         check.same("the name stays", Check.line(x, 0), "abcdefghijkl,0,0,0,0,0,");
+    }
+
+    /** The one behind is named first, so that what a name has too many would be seen. */
+    private static void namesSideBySide() {
+        check.sentence("TABLES 0 .. 7 name codes 0 .. 31 with texts of 1 to 12 bytes: each code its own");
+        int[][] pairs = {{0, 0, 0, 1}, {0, 30, 0, 31}, {0, 31, 1, 0}, {3, 15, 3, 16}, {6, 31, 7, 0}, {7, 30, 7, 31}};
+        for (int[] p : pairs) {
+            for (int n = 1; n <= 12; n++) {
+                EventLog x = new EventLog();
+                Check.log(x, 0, Check.site(x, "{e" + p[0] + "},{e" + p[2] + "}"), 0, p[1], p[3]);
+                x.flush(0);
+                x.open();
+                String first = "abcdefghijkl".substring(0, n);
+                String second = "ABCDEFGHIJKL".substring(0, n);
+                Check.name(x, p[2], p[3], second);
+                Check.name(x, p[0], p[1], first);
+                check.same("the one behind is named first", Check.line(x, 0), first + "," + second);
+                Check.name(x, p[2], p[3], first);
+                check.same("and again", Check.line(x, 0), first + "," + first);
+            }
+        }
     }
 }

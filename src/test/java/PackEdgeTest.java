@@ -21,6 +21,7 @@ public final class PackEdgeTest {
         theHeadOfABlock();
         whichBlockOfItsWriter();
         twoHundredAndThirtyEightBytes();
+        theLargestEvent();
         zerosBehindTheEvents();
         theSum();
         anEventThatDoesNotFit();
@@ -262,6 +263,27 @@ public final class PackEdgeTest {
         }
         check.same("two more", x.log(1, 1, 7), 2);
         check.same("the file", x.size(), 256);
+    }
+
+    /** A site of one byte, a VAR of nine and six texts of 16 bytes: no event is larger. */
+    private static void theLargestEvent() {
+        check.sentence("for each slot: .. A text: its size, and its bytes: the largest event, of 112 bytes");
+        EventLog x = new EventLog();
+        Check.site(x, "");
+        Check.site(x, "{t}{t}{t}{t}{t}{t}");
+        x.log(0, 0, 0);
+        String[] texts = new String[6];
+        for (int k = 0; k < 6; k++) {
+            texts[k] = ("text " + k + " has sixteen").substring(0, 15) + (char) (250 + k);
+        }
+        Object[] arguments = texts;
+        check.same("log", Check.log(x, 0, 1, Long.MAX_VALUE, arguments), 2 + 1 + 9 + 6 * 17);
+        check.same("the next one", x.log(0, 0, Long.MAX_VALUE), 116);
+        x.flush(0);
+        check.same("its last byte, and the next event", Check.file(x, 14 + 113, 14 + 116), "255 0 0");
+        check.same("open", x.open(), 3);
+        check.same("the largest one is line 1", x.about(1, -1), 1);
+        check.same("its text", Check.line(x, 1), String.join("", texts));
     }
 
     private static void zerosBehindTheEvents() {
