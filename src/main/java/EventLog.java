@@ -319,9 +319,10 @@ public final class EventLog {
         return lines.at(line);
     }
 
-    /** A line's site was there when the line was read, and sites do not go away. */
+    /** A line's site was there when the line was read, and sites do not go away: it is never the draft. */
     private Format formatOf(Event line) {
-        return sites.get(line.origin());
+        int site = line.origin();
+        return site >= 0 && site < sites.size() ? sites.get(site) : draft;
     }
 
     /** The two rows change places, so that the text is empty whatever the caller answers or throws. */

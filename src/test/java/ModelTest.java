@@ -1,10 +1,16 @@
+import java.lang.reflect.Method;
+import java.lang.reflect.Modifier;
+import java.util.Map;
 import java.util.Random;
+import java.util.TreeMap;
 import java.util.function.Supplier;
 
 /** Runs of chosen and of chance calls, on the program and on the model, whose answers must be the same. */
 public final class ModelTest {
     private static final int RUNS = 6000;
     private static final int CALLS = 512;
+    /** How often a call has answered, or thrown which exception, in all runs. */
+    private static final Map<String, Integer> OUTCOMES = new TreeMap<>();
     private static final String[] PARTS = {
         "{d}", "{u}", "{x}", "{f1}", "{f2}", "{f3}", "{f6}", "{e0}", "{e1}", "{e7}", "{t}", "{t}", "{d}", "{{", "}}", "a", "b=", " ", "~"};
     private static final String[] WRONG = {"{", "}", "{f0}", "{f7}", "{e8}", "{q}", "{}", "\177", "\37", "\200", "{dd", "{f1", "{t }"};
@@ -34,7 +40,26 @@ public final class ModelTest {
         for (int run = 0; run < runs; run++) {
             new ModelTest(check, run).go();
         }
+        everyOutcomeWasReached(check);
         check.end();
+    }
+
+    /** Chance that never comes to an outcome says nothing about it. */
+    private static void everyOutcomeWasReached(Check check) {
+        for (Method m : EventLog.class.getDeclaredMethods()) {
+            if (!Modifier.isPublic(m.getModifiers())) {
+                continue;
+            }
+            check.same(m.getName() + " answers ten times at least", timesOf(m.getName() + " answers") >= 10, true);
+            for (Class<?> e : m.getExceptionTypes()) {
+                String outcome = m.getName() + " " + e.getSimpleName();
+                check.same(outcome + " comes ten times at least", timesOf(outcome) >= 10, true);
+            }
+        }
+    }
+
+    private static int timesOf(String outcome) {
+        return OUTCOMES.getOrDefault(outcome, 0);
     }
 
     private static String outcome(Supplier<Object> call) {
@@ -51,6 +76,7 @@ public final class ModelTest {
         }
         calls++;
         String got = outcome(ofProgram);
+        OUTCOMES.merge(what.split(" ")[0] + " " + (got.endsWith("Exception") ? got : "answers"), 1, Integer::sum);
         check.same("run " + run + " call " + calls + " " + what, got, outcome(ofModel));
         return got;
     }
@@ -92,13 +118,17 @@ public final class ModelTest {
     }
 
     private void addSite() {
-        String s = format();
+        addSite(format());
+    }
+
+    private String addSite(String s) {
         type(s);
         String got = both("site " + s, program::site, model::site);
         if (got.equals("" + sites) && sites < 40) {
             formats[sites] = s;
             sites++;
         }
+        return got;
     }
 
     private String anyText(int most) {
@@ -283,11 +313,27 @@ public final class ModelTest {
         }
     }
 
+    /** A block for each event, so that the file has no room, or nearly none, long before the calls end. */
+    private void fillFile() {
+        int full = Integer.parseInt(addSite("full"));
+        int n = 20 + any(6);
+        for (int k = 0; k < n; k++) {
+            int writer = any(4);
+            long time = clock;
+            both("log " + writer + " full", () -> program.log(writer, full, time), () -> model.log(writer, full, time));
+            both("flush " + writer, () -> program.flush(writer), () -> model.flush(writer));
+            clock += any(2);
+        }
+    }
+
     private void go() {
-        int kind = run % 4;
+        int kind = run % 5;
         int first = kind == 0 ? 45 : 1 + any(6);
         for (int k = 0; k < first; k++) {
             addSite();
+        }
+        if (kind == 4) {
+            fillFile();
         }
         while (calls < CALLS) {
             int r = any(1000);
